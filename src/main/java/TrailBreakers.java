@@ -94,9 +94,7 @@ public final class TrailBreakers {
     }
 
     public int tread() {
-        if (!now.canTreadNext()) return STATE;
-        now.treadNext();
-        return now.trodden;
+        return now.treadNext() ? now.trodden : STATE;
     }
 
     public int change() {
@@ -139,8 +137,7 @@ public final class TrailBreakers {
         if (by < 1 || by > MOST_STRETCHES) return OUTSIDE;
         if (now.walkers == 0) return STATE;
         trial.copyFrom(now);
-        for (int done = 1; done <= MOST_STRETCHES && trial.canTreadNext(); done++) {
-            trial.treadNext();
+        for (int done = 1; done <= MOST_STRETCHES && trial.treadNext(); done++) {
             if (done % by == 0) trial.changeFirst();
         }
         return trial.trodden - now.trodden;
@@ -167,7 +164,7 @@ public final class TrailBreakers {
     public int fits() {
         if (!mayReadBook()) return STATE;
         fitsDone++;
-        bookFirsts.search(now);
+        bookFirsts.search(now, NONE);
         return bookFirsts.found;
     }
 
@@ -175,8 +172,8 @@ public final class TrailBreakers {
         if (!now.hasStretch(stretch) || stretch < now.trodden) return UNKNOWN;
         if (!mayReadBook()) return STATE;
         fitsDone++;
-        bookFirsts.search(now);
-        return bookFirsts.agreed[stretch];
+        bookFirsts.search(now, stretch);
+        return bookFirsts.agreed;
     }
 
     public int days(int times, int seed, int what) {
@@ -252,7 +249,7 @@ public final class TrailBreakers {
             seed = nextSeed(seed);
             int drawn = (seed / 65536) % 5;
             if (drawn <= 1) {
-                if (trial.canTreadNext()) trial.treadNext();
+                trial.treadNext();
             } else if (drawn == 2) {
                 trial.changeFirst();
             } else if (drawn == 3) {
@@ -320,6 +317,8 @@ public final class TrailBreakers {
         final int[] left = new int[MOST_WALKERS];
         final int[] told = new int[MOST_WALKERS];
         final int[] file = new int[MOST_WALKERS];
+        /** Only for the time of a tread. */
+        final int[] dues = new int[MOST_WALKERS];
 
         void begin(Page page) {
             stretches = Math.min(page.size - 2, MOST_STRETCHES);
@@ -398,35 +397,37 @@ public final class TrailBreakers {
 
         /** What he who goes at a place of the file pays for a stretch so deep. */
         int payAt(int place, int deep) {
+            int own = kind[file[place]];
             int halvings = place;
             if (place == 0) {
-                if (isOfKind(file[0], STRONG)) halvings = 1;
-            } else if (kind[file[place]] == SHORT && kind[file[place - 1]] == LONG) {
+                if (own == STRONG || own == LONG) halvings = 1;
+            } else if (own == SHORT && kind[file[place - 1]] == LONG) {
                 halvings = place - 1;
             }
             return (deep + (1 << halvings) - 1) >> halvings;
         }
 
-        boolean canTreadNext() {
-            if (walkers == 0 || trodden >= stretches) return false;
-            for (int place = 0; place < walkers; place++) {
-                if (left[file[place]] < payAt(place, depth[trodden])) return false;
-            }
-            return true;
-        }
-
-        /** Asked only when they can. */
-        void treadNext() {
-            if (walkers == 0 || trodden >= stretches) return;
+        /** The next stretch is trodden; nothing happens, and it is not so, if they can't. */
+        boolean treadNext() {
+            if (walkers == 0 || trodden >= stretches || !reckonDues()) return false;
             int first = file[0];
             boolean firstAgain = trodden > 0 && firstOn[trodden - 1] == first;
-            for (int place = 0; place < walkers; place++) {
-                left[file[place]] -= payAt(place, depth[trodden]);
-            }
+            for (int w = 0; w < walkers; w++) left[w] -= dues[w];
             minutes += 2 + depth[trodden] / 3;
             if (firstAgain && kind[first] == PROUD) minutes += 2;
             firstOn[trodden] = first;
             trodden++;
+            return true;
+        }
+
+        /** What each has to pay for the next stretch: whether each has as much. */
+        private boolean reckonDues() {
+            for (int place = 0; place < walkers; place++) {
+                int walker = file[place];
+                dues[walker] = payAt(place, depth[trodden]);
+                if (left[walker] < dues[walker]) return false;
+            }
+            return true;
         }
 
         void changeFirst() {
@@ -593,58 +594,56 @@ public final class TrailBreakers {
         }
     }
 
-    /** All firsts that are as told in the book: how many, and on whom they agree. */
+    /** All firsts that are as told in the book: how many, and whether they agree on a stretch. */
     private static final class BookFirsts {
         final Ways ways = new Ways();
-        final int[] tried = new int[MOST_STRETCHES];
-        final int[] agreed = new int[MOST_STRETCHES];
         final int[] told = new int[MOST_WALKERS];
         final int[] often = new int[MOST_WALKERS];
+        final int[] tried = new int[MOST_STRETCHES];
+        /** How many firsts are told of and not among those tried. */
+        int owed = 0;
         int found = 0;
+        int agreed = NONE;
 
-        void search(Trail trail) {
+        /** The stretch that is asked for, NONE if only the number is. */
+        void search(Trail trail, int asked) {
             ways.layOut(trail);
+            owed = 0;
             found = 0;
-            for (int w = 0; w < MOST_WALKERS; w++) {
+            agreed = NONE;
+            for (int w = 0; w < trail.walkers; w++) {
                 told[w] = trail.told[w];
                 often[w] = 0;
+                if (told[w] != NONE) owed += told[w];
             }
-            for (int s = 0; s < MOST_STRETCHES; s++) {
-                tried[s] = NONE;
-                agreed[s] = NONE;
-            }
-            goOn(trail.trodden);
+            goOn(trail.trodden, asked);
         }
 
-        private void goOn(int stretch) {
+        private void goOn(int stretch, int asked) {
+            if (owed > ways.stretches - stretch) return;
             if (stretch >= ways.stretches) {
-                if (isAsTold()) note();
+                if (asked >= 0 && asked < stretch) note(tried[asked]);
+                found++;
                 return;
             }
-            for (int next = 0; next < ways.walkers; next++) step(stretch, next);
+            for (int next = 0; next < ways.walkers; next++) step(stretch, next, asked);
         }
 
-        private void step(int stretch, int first) {
+        /** None is tried more often than told; so, with none owed in the end, all is as told. */
+        private void step(int stretch, int first, int asked) {
             if (often[first] == told[first] || ways.leastBehind(stretch, first) == NONE) return;
+            int paidBack = told[first] == NONE ? 0 : 1;
             tried[stretch] = first;
             often[first]++;
-            goOn(stretch + 1);
+            owed -= paidBack;
+            goOn(stretch + 1, asked);
+            owed += paidBack;
             often[first]--;
         }
 
-        private boolean isAsTold() {
-            for (int w = 0; w < ways.walkers; w++) {
-                if (told[w] != NONE && told[w] != often[w]) return false;
-            }
-            return true;
-        }
-
-        private void note() {
-            for (int s = 0; s < MOST_STRETCHES; s++) {
-                if (found == 0) agreed[s] = tried[s];
-                else if (agreed[s] != tried[s]) agreed[s] = NONE;
-            }
-            found++;
+        private void note(int first) {
+            if (found == 0) agreed = first;
+            else if (agreed != first) agreed = NONE;
         }
     }
 
@@ -684,10 +683,7 @@ public final class TrailBreakers {
 
         private void tryFile() {
             startAnew();
-            for (int s = 0; s < trial.stretches && trial.canTreadNext(); s++) {
-                trial.treadNext();
-                trial.changeFirst();
-            }
+            for (int s = 0; s < trial.stretches && trial.treadNext(); s++) trial.changeFirst();
             if (trial.trodden < trial.stretches || trial.leastLeft() <= least) return;
             least = trial.leastLeft();
             for (int place = 0; place < trial.walkers; place++) file[place] = tried[place];

@@ -39,6 +39,7 @@ public final class PromiseTests {
         t.promise23RestoreRefused();
         t.promise24Count();
         t.promise25Digest();
+        t.fullest();
         t.check.end("PromiseTests");
     }
 
@@ -415,6 +416,11 @@ public final class PromiseTests {
         due("15: no such firsts, least", x.best(0), NONE);
         due("15: no such firsts, changes", x.best(1), NONE);
         due("15: no such firsts, first", x.best(10), NONE);
+        x = Check.on("4;0", WALKER, 8, WALKER, 8);
+        due("15: by no change", x.best(1), 0);
+        x.snow(9);
+        due("15: no firsts any more, changes", x.best(1), NONE);
+        due("15: no firsts any more, first", x.best(10), NONE);
         x = Check.on("48;0", WALKER, 20, WALKER, 20);
         x.tread();
         due("15: one is trodden, least", x.best(0), 10);
@@ -716,6 +722,9 @@ public final class PromiseTests {
         TrailBreakers x = Check.on("57;3");
         Check.write(x, "7;");
         due("25: without walkers", x.digest(), digestOf(5, NONE, 7, NONE, 55, 59, 2, 3, 0, 0, 0, 0, 0, 2, 1, 0, 0));
+        x = Check.on("5;3", WALKER, 10);
+        due("25: with one walker", x.digest(), digestOf(5, NONE, WALKER, 10, 10, 0, 0, 5, NONE,
+            1, 1, 1, 5, 1, 3, 1, 0, 0, 10, 0, 0, 1, 0, 0));
         x = Check.on("50;3", WALKER, 10, LONG, 12);
         x.tell(1, 2);
         x.tread();
@@ -724,6 +733,43 @@ public final class PromiseTests {
             WALKER, 10, 5, 0, 1, 0, NONE, LONG, 12, 9, 1, 0, 0, 2,
             1, 1, 1, 7, 97, 2, 3, 2, 1, 3, 14, 1, 1, 1, 0, 0));
         due("25: it changes nothing", x.digest(), x.digest());
+    }
+
+    /** As many letters, stretches, walkers as there may be. */
+    private void fullest() {
+        TrailBreakers x = Check.page("0123456789");
+        due("fullest: slope()", x.slope(), STATE);
+        due("fullest: fault()", x.fault(), 6);
+        x.blank();
+        Check.write(x, "000000;1");
+        x.slope();
+        for (int w = 0; w < 5; w++) x.walker(WALKER, 9);
+        due("fullest: best(0)", x.best(0), 9);
+        due("fullest: best(1)", x.best(1), 0);
+        due("fullest: best(15)", x.best(15), 0);
+        due("fullest: sun()", x.sun(), 0);
+        due("fullest: snow(1)", x.snow(1), 6);
+        due("fullest: rest()", x.rest(), 0);
+        due("fullest: far(6)", x.far(6), 6);
+        for (int n = 1; n <= 6; n++) due("fullest: tread()", x.tread(), n);
+        due("fullest: tread() once more", x.tread(), STATE);
+        due("fullest: often first", x.about(0, 4), 6);
+        due("fullest: never first", x.about(4, 4), 0);
+        due("fullest: left", x.about(4, 2), 3);
+        due("fullest: pays", x.about(4, 5), NONE);
+        due("fullest: rest() of all", x.rest(), 5);
+        due("fullest: snow(9)", x.snow(9), 0);
+        due("fullest: sun() in the end", x.sun(), 0);
+        due("fullest: far(1)", x.far(1), 0);
+        due("fullest: setOut(0)", x.setOut(0), 3);
+        due("fullest: setOut(14)", x.setOut(14), 4);
+        due("fullest: best(0) in the end", x.best(0), 4);
+        due("fullest: fits()", x.fits(), 1);
+        due("fullest: sure(5)", x.sure(5), UNKNOWN);
+        due("fullest: image()", x.image(), 6);
+        due("fullest: restore()", x.restore(), 6);
+        due("fullest: days(60, 1, 0)", x.days(60, 1, 0), 6);
+        due("fullest: days(60, 1, 1)", x.days(60, 1, 1), 45);
     }
 
     private static long digestOf(int... numbers) {
