@@ -493,6 +493,7 @@ public final class TrailBreakers {
         final int[] pays = new int[MOST_STRETCHES * MOST_WALKERS * MOST_WALKERS];
         /** By stretch: what is left of each ahead of it; the last row is what is left in the end. */
         final int[] leftAhead = new int[(MOST_STRETCHES + 1) * MOST_WALKERS];
+        /** By walker: his place in the file as it is. */
         final int[] place = new int[MOST_WALKERS];
         int walkers = 0;
         int from = 0;
@@ -503,10 +504,8 @@ public final class TrailBreakers {
             walkers = trail.walkers;
             from = trail.trodden;
             stretches = trail.stretches;
-            for (int w = 0; w < walkers; w++) {
-                leftAhead[from * MOST_WALKERS + w] = trail.left[w];
-                place[trail.file[w]] = w;
-            }
+            for (int w = 0; w < walkers; w++) leftAhead[from * MOST_WALKERS + w] = trail.left[w];
+            for (int at = 0; at < walkers; at++) place[trail.file[at]] = at;
             for (int turns = 0; turns < walkers; turns++) {
                 for (int s = from; s < stretches; s++) layOutStretch(s);
                 turned.changeFirst();
@@ -572,14 +571,15 @@ public final class TrailBreakers {
                 return;
             }
             for (int next = 0; next < ways.walkers; next++) {
-                int leastThen = ways.leastBehind(stretch, next);
-                tried[stretch] = next;
-                step(stretch, next, leastThen, changesNow + ways.changesFrom(first, next));
+                step(stretch, next, changesNow + ways.changesFrom(first, next));
             }
         }
 
-        private void step(int stretch, int first, int leastThen, int changesThen) {
-            if (leastThen != NONE) goOn(stretch + 1, first, leastThen, changesThen);
+        private void step(int stretch, int first, int changesThen) {
+            int leastThen = ways.leastBehind(stretch, first);
+            if (leastThen == NONE) return;
+            tried[stretch] = first;
+            goOn(stretch + 1, first, leastThen, changesThen);
         }
 
         /** What is left only gets less and changes only more: what is beaten here is so in the end. */

@@ -557,6 +557,9 @@ public final class PromiseTests {
         x.tell(0, 3);
         x.tell(1, NONE);
         due("19: more than there are", x.fits(), 0);
+        x = Check.on("000;0", WALKER, 9, WALKER, 9);
+        x.tell(0, 2);
+        due("19: twice of three", x.fits(), 3);
         due("19: only what can be trodden", Check.on("44;0", WALKER, 7, WALKER, 7).fits(), 2);
         x = Check.on("44;0", WALKER, 9, WALKER, 9);
         x.tread();
