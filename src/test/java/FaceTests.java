@@ -2,18 +2,13 @@ import java.lang.reflect.Constructor;
 import java.lang.reflect.Field;
 import java.lang.reflect.Method;
 import java.lang.reflect.Modifier;
-import java.nio.file.Files;
-import java.nio.file.Path;
 import java.util.ArrayList;
 import java.util.List;
 import java.util.Set;
 import java.util.TreeSet;
-import java.util.regex.Matcher;
-import java.util.regex.Pattern;
 
-/** The public face of the document, and the rules of LANGUAGE.md that can be seen from outside. */
+/** The public face of the document (rule 1 of LANGUAGE.md): all of it, and nothing beside it. */
 public final class FaceTests {
-    private static final Path SOURCE = Path.of("src/main/java/TrailBreakers.java");
     private static final String[] FACE = {
         "int letter(int)", "int blank()", "int fault()", "int slope()", "int stretch(int,int)",
         "int walker(int,int)", "int about(int,int)", "int as(int,int)", "int tread()", "int change()",
@@ -21,17 +16,14 @@ public final class FaceTests {
         "int tell(int,int)", "int fits()", "int sure(int)", "int days(int,int,int)", "int image()",
         "int restore()", "int count(int)", "long digest()"};
     private static final String[] CONSTANTS = {"FULL=-104", "NONE=-1", "OUTSIDE=-102", "STATE=-103", "UNKNOWN=-101"};
-    private static final String[] FORBIDDEN = {
-        "import", "package", "throw", "throws", "try", "catch", "finally", "synchronized", "assert", "protected",
-        "System", "Thread", "Object", "Random"};
 
     private static final Check check = new Check();
 
     public static void main(String[] args) throws Exception {
         methods();
         constants();
-        nested();
-        text();
+        names();
+        classesInside();
         check.end("FaceTests");
     }
 
@@ -65,35 +57,24 @@ public final class FaceTests {
         check.holds("the constants are those of the document: " + got, got.equals(new TreeSet<>(List.of(CONSTANTS))));
     }
 
-    private static void nested() {
+    /** No private method, of the class or of one inside it, bears the name of a public one. */
+    private static void names() {
         Set<String> face = new TreeSet<>();
         for (Method m : TrailBreakers.class.getMethods()) face.add(m.getName());
         List<Class<?>> all = new ArrayList<>(List.of(TrailBreakers.class.getDeclaredClasses()));
-        check.holds("at most some twelve classes", all.size() <= 11);
+        all.add(TrailBreakers.class);
         for (Class<?> c : all) {
-            check.holds("static: " + c, Modifier.isStatic(c.getModifiers()));
-            check.holds("some twenty fields: " + c, c.getDeclaredFields().length <= 20);
             for (Method m : c.getDeclaredMethods()) {
-                check.holds("no name of the face: " + m, !face.contains(m.getName()));
-                check.holds("at most seven parameters: " + m, m.getParameterCount() <= 7);
+                boolean ofFace = c == TrailBreakers.class && Modifier.isPublic(m.getModifiers());
+                check.holds("no name of the face: " + m, ofFace || !face.contains(m.getName()));
             }
-        }
-        for (Method m : TrailBreakers.class.getDeclaredMethods()) {
-            if (Modifier.isPrivate(m.getModifiers())) check.holds("no name of the face: " + m, !face.contains(m.getName()));
         }
     }
 
-    private static void text() throws Exception {
-        String source = Files.readString(SOURCE);
-        String code = source.replaceAll("(?s)/\\*.*?\\*/", "").replaceAll("//[^\n]*", "");
-        for (String word : FORBIDDEN) {
-            check.holds("no " + word, !Pattern.compile("\\b" + word + "\\b").matcher(code).find());
+    private static void classesInside() {
+        for (Class<?> c : TrailBreakers.class.getDeclaredClasses()) {
+            check.holds("static: " + c, Modifier.isStatic(c.getModifiers()));
+            check.holds("not public, not protected: " + c, !Modifier.isPublic(c.getModifiers()) && !Modifier.isProtected(c.getModifiers()));
         }
-        check.holds("no lambda", !code.contains("->"));
-        check.holds("no method reference", !code.contains("::"));
-        check.holds("no sign above 127", source.chars().allMatch(c -> c < 128));
-        Matcher made = Pattern.compile("[^\n]*\\bnew\\b[^\n]*").matcher(code);
-        Pattern field = Pattern.compile("\\s*(private )?final [\\w\\[\\]]+ \\w+ = new [^;]*;");
-        while (made.find()) check.holds("made once, in a field: " + made.group(), field.matcher(made.group()).matches());
     }
 }
